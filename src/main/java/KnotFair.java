@@ -1262,7 +1262,6 @@ public final class KnotFair {
             if (onItsOwn) {
                 trial.cutTo(height - 1);
                 going = choicesFrom(i + 1, row, n);
-                trial.cutTo(height - 1);
                 trial.append(c);
             }
             trial.append(c);
@@ -1469,13 +1468,9 @@ public final class KnotFair {
             return false;
         }
 
-        private static boolean hasRoom(Tie tie) {
-            return tie != null && tie.row.hasRoom();
-        }
-
         /** A row that is full is refused ahead of the sign, which is its fault's place. */
         private boolean tellCrossing(Fair fair, Tie tie) {
-            if (!hasRoom(tie)) {
+            if (tie == null || !tie.row.hasRoom()) {
                 return false;
             }
             boolean under = token.isSign('-');

@@ -114,6 +114,7 @@ public final class MovesTest {
         DUE.is("three slides", Due.fair(4, 0, 1, 3, 3, 3, -1, -3, -3, -3).steps(0), 3);
         DUE.is("four are too many", Due.fair(4, 0, 1, 3, 3, 3, 3, -1, -3, -3, -3, -3).steps(0), Due.NONE);
         DUE.is("a third behind a slide", Due.fair(4, 5, 1, 2, 3, 1, -3, -2, -1, -2).steps(0), 2);
+        DUE.is("a third at the begin alone", Due.fair(4, 0, 1, 2, 1, -2, 3, -3, -1, -2).steps(0), 1);
         DUE.is("it holds", Due.fair(2, 0, 1, 1).steps(0), Due.NONE);
         KnotFair x = Due.fair(4, 3, 1, 3, -1, -3);
         DUE.is("steps", x.steps(0), 1);

@@ -140,6 +140,10 @@ public final class NumbersTest {
         DUE.is("1 and 0", x.same(1, 0), 1);
         DUE.is("0 and 2", x.same(0, 2), 1);
         DUE.is("slid isn't the same", x.same(0, 3), 0);
+        x.add(4, 3);
+        x.flip(4, 0);
+        DUE.is("but for the first", x.same(0, 4), 0);
+        x.drop(4);
         DUE.is("a shorter one", x.same(0, 4), 0);
         DUE.is("a longer one", x.same(4, 0), 0);
         DUE.is("same(0, 5)", x.same(0, 5), Due.BEYOND);

@@ -49,8 +49,10 @@ public final class SheetsTest {
         DUE.is("still missing", x.write(0, 0, 0), Due.MISSING);
         DUE.is("size 40", x.sheet(3, 64, 40), 40);
         DUE.is("the last", x.write(3, 39, 7), 0);
+        DUE.is("the first", x.write(3, 0, 7), 0);
         DUE.is("anew", x.sheet(3, 16, 40), 40);
         DUE.is("all 0", x.write(3, 39, 1), 0);
+        DUE.is("the first, too", x.write(3, 0, 1), 0);
         DUE.is("missing again", x.sheet(3, 0, 12), 0);
         DUE.is("missing", x.write(3, 0, 1), Due.MISSING);
         DUE.is("empty", x.sheet(3, 8, 0), 0);
@@ -167,8 +169,12 @@ public final class SheetsTest {
         DUE.is("none seen", x.read(0), 1 | 2 | 8);
         write(x, 0, 64, 1, -1, 1, 1, -1, 1);
         DUE.is("six", x.read(0), 4);
+        write(x, 0, 64, -1, -1, 1, 1, -1, 1);
+        DUE.is("six, the first of them wrong", x.read(0), 0);
         write(x, 0, 64, 1, -1, 1, 1, -1, -1);
         DUE.is("six, one of them wrong", x.read(0), 0);
+        x.write(0, 0, 2);
+        DUE.is("a 2 at the begin", x.read(0), Due.STATE);
         x.sheet(0, 64, 0);
         DUE.is("nothing", x.read(0), 16);
         x.sheet(0, 64, 40);

@@ -85,6 +85,10 @@ public final class TextTest {
         fault(" ties", 1);
         fault("ti", 0);
         fault("Tie", 0);
+        fault("xie", 0);
+        fault("tiez", 0);
+        fault("tie\0", 3);
+        fault("tie 19", 4);
         fault("tie tie", 4);
         fault("tieback", 0);
         fault("tie 1 4", 6);
