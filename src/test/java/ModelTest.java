@@ -255,6 +255,10 @@ public final class ModelTest {
     }
 
     private void ask(String name, long... a) {
+        // Behind its last promised call an object's answers are free.
+        if (asked >= CALLS) {
+            return;
+        }
         StringBuilder call = new StringBuilder("run ").append(seed).append(": ").append(name);
         for (long v : a) {
             call.append(' ').append(v);
