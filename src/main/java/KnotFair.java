@@ -1213,14 +1213,14 @@ public final class KnotFair {
             }
             moved.take(row);
             for (int n = 0; n <= MOST_STEPS; n++) {
-                if (comesOutBy(n)) {
+                if (comesOutBy(n, moved, trial)) {
                     return n;
                 }
             }
             return -1;
         }
 
-        private boolean comesOutBy(int n) {
+        private static boolean comesOutBy(int n, Row moved, Row trial) {
             if (n <= 0) {
                 trial.take(moved);
                 trial.tighten();
@@ -1228,7 +1228,7 @@ public final class KnotFair {
             }
             for (int i = 0; i < moved.size; i++) {
                 if (moved.makeMove(i)) {
-                    boolean out = comesOutBy(n - 1);
+                    boolean out = comesOutBy(n - 1, moved, trial);
                     moved.makeMove(i);
                     if (out) {
                         return true;
@@ -1240,7 +1240,7 @@ public final class KnotFair {
 
         int rowsLeaving(Row row, int n) {
             trial.cutTo(0);
-            return choicesFrom(0, row, n);
+            return choicesFrom(0, row, n, trial);
         }
 
         /**
@@ -1248,7 +1248,7 @@ public final class KnotFair {
          * trial, told without signs: behind its own c a crossing goes away
          * with it one way and stays the other, else it stays both ways.
          */
-        private int choicesFrom(int i, Row row, int n) {
+        private static int choicesFrom(int i, Row row, int n, Row trial) {
             if (Math.abs(n - trial.size) > row.size - i) {
                 return 0;
             }
@@ -1261,11 +1261,11 @@ public final class KnotFair {
             int going = 0;
             if (onItsOwn) {
                 trial.cutTo(height - 1);
-                going = choicesFrom(i + 1, row, n);
+                going = choicesFrom(i + 1, row, n, trial);
                 trial.append(c);
             }
             trial.append(c);
-            int staying = choicesFrom(i + 1, row, n);
+            int staying = choicesFrom(i + 1, row, n, trial);
             trial.cutTo(height);
             return going + (onItsOwn ? staying : 2 * staying);
         }

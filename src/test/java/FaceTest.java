@@ -53,16 +53,23 @@ public final class FaceTest {
         return b.append(')').toString();
     }
 
-    /** In the classes inside, too: none of their methods bears a name of the face. */
+    /** In the classes inside, too. */
     private static void noPrivateNamesake() {
         Set<String> names = new TreeSet<>();
         for (String call : FACE) {
             names.add(call.substring(call.indexOf(' ') + 1, call.indexOf('(')));
         }
+        privateNamesAreOthers(KnotFair.class, names);
         for (Class<?> inside : KnotFair.class.getDeclaredClasses()) {
             DUE.holds(inside + " is static", Modifier.isStatic(inside.getModifiers()));
             DUE.holds(inside + " is not public", !Modifier.isPublic(inside.getModifiers()));
-            for (Method m : inside.getDeclaredMethods()) {
+            privateNamesAreOthers(inside, names);
+        }
+    }
+
+    private static void privateNamesAreOthers(Class<?> c, Set<String> names) {
+        for (Method m : c.getDeclaredMethods()) {
+            if (Modifier.isPrivate(m.getModifiers())) {
                 DUE.holds(m + " has a name of its own", !names.contains(m.getName()));
             }
         }

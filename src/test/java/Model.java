@@ -10,7 +10,7 @@ import java.util.regex.Pattern;
  * The document once more, by trying out all there is: slow, and written apart
  * from the class, so that a slip in one of them is seen against the other.
  */
-final class Model {
+final class Model implements Asked {
     private static final class Fault extends RuntimeException {
         private static final long serialVersionUID = 1;
         final int place;
@@ -60,7 +60,8 @@ final class Model {
     }
 
     /** The answer to a call by its name; calls that a finding ends come first. */
-    long call(String name, long[] a) {
+    @Override
+    public long call(String name, long... a) {
         if (List.of("sheet", "write", "copy", "load", "show", "read").contains(name)) {
             return sheetCall(name, a);
         }

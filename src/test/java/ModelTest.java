@@ -22,7 +22,7 @@ public final class ModelTest {
 
     private final int seed;
     private final Random random;
-    private final KnotFair x = new KnotFair();
+    private final Asked x = new Calls(new KnotFair());
     private final Model model = new Model();
     private int asked = 0;
 
@@ -264,6 +264,6 @@ public final class ModelTest {
             call.append(' ').append(v);
         }
         asked++;
-        DUE.is(call.toString(), Calls.call(x, name, a), model.call(name, a));
+        DUE.is(call.toString(), x.call(name, a), model.call(name, a));
     }
 }

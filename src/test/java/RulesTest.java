@@ -10,8 +10,8 @@ public final class RulesTest {
     private static final Due DUE = new Due();
     private static final String[] RULED_OUT = {
         "\\bthrow\\b", "\\bthrows\\b", "\\btry\\b", "\\bcatch\\b", "\\bfinally\\b", "\\bsynchronized\\b", "\\bassert\\b",
-        "->", "::", "\\bpackage\\b", "\\bimport\\b", "\\bprotected\\b", "\\bdouble\\b", "\\bfloat\\b",
-        "Exact\\b", "\\bObject\\b", "\\bThread\\b", "\\bhashCode\\b", "\\btoString\\b", "\\bfor \\(;;\\)",
+        "(?m)^(?!.*\\b(case|default)\\b).*->", "::", "\\bpackage\\b", "\\bimport (?!java\\.util\\.)", "\\bprotected\\b",
+        "Exact\\b", "\\bObject\\b", "\\bThread\\b", "\\bhashCode\\b", "\\bfor \\(;;\\)",
         "while \\(true\\)", "System\\.(?!arraycopy)", "\\bstatic \\{"};
 
     public static void main(String[] args) throws IOException {
