@@ -27,6 +27,7 @@ final class Edges {
     private final Map<String, List<String>> sentences = new LinkedHashMap<>();
     private String section = "";
     private String sentence = "";
+    private final List<String> excused = new ArrayList<>();
     private Case latest = null;
 
     static Edges read(Path folder) throws IOException {
@@ -55,7 +56,15 @@ final class Edges {
             cases.add(latest);
         } else if (line.startsWith("  ")) {
             latest.lines().add(line);
+        } else if (!line.isBlank()) {
+            excused.add(sentence);
         }
+    }
+
+    /** Whether a sentence has a case, or a line that says why it has none. */
+    boolean isAnswered(String inSection, String quoted) {
+        return excused.contains(quoted)
+                || cases.stream().anyMatch(c -> c.section().equals(inSection) && c.sentence().equals(quoted));
     }
 
     List<Case> cases() {

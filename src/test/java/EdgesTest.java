@@ -73,7 +73,8 @@ public final class EdgesTest {
         for (Map.Entry<String, List<String>> section : there.entrySet()) {
             List<String> quoted = edges.sentences().getOrDefault(section.getKey(), List.of());
             for (String sentence : section.getValue()) {
-                DUE.holds(section.getKey() + ": \"" + sentence + "\" has its cases", quoted.contains(sentence));
+                DUE.holds(section.getKey() + ": \"" + sentence + "\" has its cases",
+                        quoted.contains(sentence) && edges.isAnswered(section.getKey(), sentence));
             }
             DUE.is(section.getKey() + ": sentences", quoted.size(), section.getValue().size());
         }
