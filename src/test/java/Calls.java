@@ -1,6 +1,7 @@
 import java.lang.reflect.InvocationTargetException;
 import java.lang.reflect.Method;
 import java.util.Map;
+import java.util.Set;
 import java.util.TreeMap;
 
 /** Calls a method of the class by its name. */
@@ -21,6 +22,10 @@ final class Calls implements Asked {
             }
         }
         return all;
+    }
+
+    static Set<String> names() {
+        return METHODS.keySet();
     }
 
     static boolean isCall(String name) {
