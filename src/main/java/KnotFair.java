@@ -36,7 +36,6 @@ public final class KnotFair {
     private final int[] findings = new int[FINDINGS];
     private final Fair kept = new Fair();
     private final Tape tape = new Tape();
-    private final Teller teller = new Teller(tape);
     private final Sheet[] sheets = new Sheet[MOST_SHEETS];
     private final Row row = new Row(MOST_LAID);
     private final Row otherRow = new Row(MOST_LAID);
@@ -456,7 +455,7 @@ public final class KnotFair {
 
     public int text() {
         draft.take(fair);
-        int told = teller.tell(draft);
+        int told = Teller.tell(tape, draft);
         tape.empty();
         if (told >= 0) {
             Fair old = fair;
@@ -1271,10 +1270,20 @@ public final class KnotFair {
         }
     }
 
-    /** The bytes of a text that isn't read yet. */
+    /** The bytes of a text that isn't told yet, and the token that its telling stands at. */
     private static final class Tape {
+        private static final int END = 0;
+        private static final int WORD = 1;
+        private static final int NUMBER = 2;
+        private static final int OTHER = 3;
+        private static final int TOO_LARGE = 1000;
+
         private final int[] bytes = new int[MOST_BYTES];
         private int size = 0;
+        private int sort = END;
+        private int from = 0;
+        private int to = 0;
+        private int value = 0;
 
         /** -1, which is no byte, where there is none. */
         int at(int i) {
@@ -1291,25 +1300,6 @@ public final class KnotFair {
         void empty() {
             size = 0;
         }
-    }
-
-    /** The token that a text stands at. */
-    private static final class Token {
-        private static final int END = 0;
-        private static final int WORD = 1;
-        private static final int NUMBER = 2;
-        private static final int OTHER = 3;
-        private static final int TOO_LARGE = 1000;
-
-        private final Tape tape;
-        private int sort = END;
-        private int from = 0;
-        private int to = 0;
-        private int value = 0;
-
-        Token(Tape tape) {
-            this.tape = tape;
-        }
 
         void goToFirst() {
             to = 0;
@@ -1318,15 +1308,15 @@ public final class KnotFair {
 
         void goOn() {
             from = to;
-            while (from < tape.size && tape.at(from) == ' ') {
+            while (from < size && at(from) == ' ') {
                 from++;
             }
-            sort = sortOf(tape.at(from));
+            sort = sortOf(at(from));
             value = 0;
             to = sort == OTHER ? from + 1 : from;
-            while (sort != OTHER && to < tape.size && sortOf(tape.at(to)) == sort) {
+            while (sort != OTHER && to < size && sortOf(at(to)) == sort) {
                 if (sort == NUMBER) {
-                    value = Math.min(TOO_LARGE, value * 10 + tape.at(to) - '0');
+                    value = Math.min(TOO_LARGE, value * 10 + at(to) - '0');
                 }
                 to++;
             }
@@ -1347,7 +1337,7 @@ public final class KnotFair {
                 return false;
             }
             for (int k = 0; k < name.length(); k++) {
-                if (tape.at(from + k) != name.charAt(k)) {
+                if (at(from + k) != name.charAt(k)) {
                     return false;
                 }
             }
@@ -1355,7 +1345,7 @@ public final class KnotFair {
         }
 
         boolean isSign(char sign) {
-            return sort == OTHER && tape.at(from) == sign;
+            return sort == OTHER && at(from) == sign;
         }
 
         boolean isNumber(int least, int most) {
@@ -1368,43 +1358,37 @@ public final class KnotFair {
      * if not, the token is still the one that can't stand there.
      */
     private static final class Teller {
-        private final Token token;
-
-        Teller(Tape tape) {
-            token = new Token(tape);
-        }
-
         /** How many items, or -1 less the place of the fault. */
-        int tell(Fair fair) {
-            token.goToFirst();
+        static int tell(Tape tape, Fair fair) {
+            tape.goToFirst();
             for (int items = 1; items <= MOST_BYTES; items++) {
-                if (!tellItem(fair)) {
+                if (!tellItem(tape, fair)) {
                     break;
                 }
-                if (token.sort == Token.END) {
+                if (tape.sort == Tape.END) {
                     return items;
                 }
-                if (!token.isSign(';')) {
+                if (!tape.isSign(';')) {
                     break;
                 }
-                token.goOn();
+                tape.goOn();
             }
-            return -1 - token.from;
+            return -1 - tape.from;
         }
 
-        private boolean tellItem(Fair fair) {
-            if (token.isWord("ropes")) {
-                return tellRopes(fair);
+        private static boolean tellItem(Tape tape, Fair fair) {
+            if (tape.isWord("ropes")) {
+                return tellRopes(tape, fair);
             }
-            if (token.isWord("more")) {
-                return tellMore(fair);
+            if (tape.isWord("more")) {
+                return tellMore(tape, fair);
             }
-            return tellTie(fair, kindNamed());
+            return tellTie(tape, fair, kindNamed(tape));
         }
 
-        private int kindNamed() {
+        private static int kindNamed(Tape tape) {
             for (int kind = 0; kind < KINDS; kind++) {
-                if (token.isWord(nameOf(kind))) {
+                if (tape.isWord(nameOf(kind))) {
                     return kind;
                 }
             }
@@ -1428,40 +1412,40 @@ public final class KnotFair {
             }
         }
 
-        private boolean tellRopes(Fair fair) {
+        private static boolean tellRopes(Tape tape, Fair fair) {
             if (fair.tieCount > 0) {
                 return false;
             }
-            token.goOn();
-            if (!token.isNumber(LEAST_ROPES, MOST_ROPES)) {
+            tape.goOn();
+            if (!tape.isNumber(LEAST_ROPES, MOST_ROPES)) {
                 return false;
             }
-            fair.ropeCount = token.value;
-            token.goOn();
+            fair.ropeCount = tape.value;
+            tape.goOn();
             return true;
         }
 
-        private boolean tellMore(Fair fair) {
-            token.goOn();
-            if (!token.isNumber(0, fair.tieCount - 1)) {
+        private static boolean tellMore(Tape tape, Fair fair) {
+            tape.goOn();
+            if (!tape.isNumber(0, fair.tieCount - 1)) {
                 return false;
             }
-            Tie tie = fair.tieAt(token.value);
-            token.goOn();
-            return tellCrossing(fair, tie);
+            Tie tie = fair.tieAt(tape.value);
+            tape.goOn();
+            return tellCrossing(tape, fair, tie);
         }
 
-        private boolean tellTie(Fair fair, int kind) {
+        private static boolean tellTie(Tape tape, Fair fair, int kind) {
             if (!isKind(kind) || !fair.hasRoomForTie()) {
                 return false;
             }
             Tie tie = fair.tieAt(fair.begin(kind));
-            token.goOn();
+            tape.goOn();
             for (int k = 0; k <= MOST_CROSSINGS; k++) {
-                if (token.sort != Token.NUMBER && !token.isSign('-')) {
+                if (tape.sort != Tape.NUMBER && !tape.isSign('-')) {
                     return true;
                 }
-                if (!tellCrossing(fair, tie)) {
+                if (!tellCrossing(tape, fair, tie)) {
                     return false;
                 }
             }
@@ -1469,19 +1453,19 @@ public final class KnotFair {
         }
 
         /** A row that is full is refused ahead of the sign, which is its fault's place. */
-        private boolean tellCrossing(Fair fair, Tie tie) {
+        private static boolean tellCrossing(Tape tape, Fair fair, Tie tie) {
             if (tie == null || !tie.row.hasRoom()) {
                 return false;
             }
-            boolean under = token.isSign('-');
+            boolean under = tape.isSign('-');
             if (under) {
-                token.goOn();
+                tape.goOn();
             }
-            if (!token.isNumber(1, fair.ropeCount - 1)) {
+            if (!tape.isNumber(1, fair.ropeCount - 1)) {
                 return false;
             }
-            tie.row.append(under ? -token.value : token.value);
-            token.goOn();
+            tie.row.append(under ? -tape.value : tape.value);
+            tape.goOn();
             return true;
         }
     }
@@ -1509,7 +1493,7 @@ public final class KnotFair {
         }
 
         boolean hasFrom(int from, int n) {
-            return from >= 0 && n >= 0 && from <= size - n;
+            return from >= 0 && n >= 0 && from <= Math.min(size, numbers.length) - n;
         }
 
         long at(int i) {

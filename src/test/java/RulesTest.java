@@ -23,6 +23,8 @@ public final class RulesTest {
         }
         DUE.holds("at most twelve classes", count(code, "\\bclass\\b") <= 12);
         DUE.holds("static fields are final", count(code, "\\bstatic (?!final)[\\w\\[\\]]+ \\w+( =|;)") == 0);
+        DUE.holds("a constructor hands out nothing of what it makes",
+                count(code, "\\bthis[,)]") + count(code, "private [^\n=]* = new \\w+\\([a-z]") == 0);
         DUE.holds("methods stay short", longestMethod(code) <= 60);
         DUE.end();
     }
